@@ -380,6 +380,21 @@ public final class PromisesTest {
         ClappedWrong farRest = Due.with("s10,s10,s10;0");
         Due.let(farRest, "000");
         due("13: behind one", farRest.rest(), 1);
+        lateRest("c27,e13,f10,c28,c56;0", "30101", 30);
+        lateRest("s79,c12,f68,e26;0", "2333", 31);
+    }
+
+    /** The last BAR that REST looks at, and one too many. */
+    private static void lateRest(String hall, String sounds, int want) {
+        ClappedWrong x = Due.with(hall);
+        Due.let(x, sounds);
+        due("13: rest in " + hall, x.rest(), want > 30 ? NONE : want);
+        for (int bar = 0; bar < want; bar++) {
+            String ahead = Due.sounds(x);
+            x.bar();
+            Due.due("13: no rest behind " + bar + " bars in " + hall, !ahead.equals(Due.sounds(x)));
+        }
+        due("13: at rest in " + hall, x.rest(), 0);
     }
 
     private static void promise14() {
@@ -592,6 +607,9 @@ public final class PromisesTest {
         Due.dueText("20: as it would be", Due.sounds(one), "333");
         ClappedWrong arm = Due.with("f10,f20,f40;0");
         due("20: the arm is up", arm.nights(1, 1, 0), 7);
+        // seed 34 leads to 1012308659, by 65536: 15446, its rest by 6: 2; then 762615920, 11636, its rest by 9: 8
+        ClappedWrong all = Due.with("f10,f10,f10,f10,f10,f10,f10,f10;0");
+        due("20: the arm is up for all", all.nights(1, 34, 0), 8);
         due("20: as it would be", arm.count(4), 0);
     }
 
