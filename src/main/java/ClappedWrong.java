@@ -59,7 +59,7 @@ public final class ClappedWrong {
         }
         room.read(page);
         page.wipe();
-        night.startIn(room);
+        night.startAnew();
         isKept = false;
         hallsRead++;
         return room.rows;
@@ -391,7 +391,7 @@ public final class ClappedWrong {
         if (lesser >= greater || !room.has(greater)) {
             return false;
         }
-        trial.beginWith(room.rows, night.crowd.armRows);
+        trial.beginWith(night.crowd.armRows);
         trial.let(lesser, number / 2 % 2 == 1 ? EVEN : ODD);
         trial.let(greater, number % 2 == 1 ? EVEN : ODD);
         for (int gone = 0; gone < night.recorded; gone++) {
@@ -591,10 +591,9 @@ public final class ClappedWrong {
             armRows = other.armRows;
         }
 
-        /** Places behind the last ROW SOUND 0, so that they count for nobody. */
-        void beginWith(int rows, int arm) {
+        void beginWith(int arm) {
             for (int row = 0; row < MOST_ROWS; row++) {
-                sounds[row] = row < rows ? ALL : NOTHING;
+                sounds[row] = ALL;
                 clapped[row] = 0;
             }
             armRows = arm;
@@ -733,8 +732,8 @@ public final class ClappedWrong {
             beatsLeftOut = 0;
         }
 
-        void startIn(Hall hall) {
-            crowd.beginWith(hall.rows, 0);
+        void startAnew() {
+            crowd.beginWith(0);
             recorded = 0;
             barsGone = 0;
             beatsLeftOut = 0;

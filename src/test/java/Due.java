@@ -2,15 +2,23 @@
 final class Due {
     private static int wrong = 0;
     private static int looked = 0;
+    private static int sentences = 0;
+    private static String sentence = "";
 
     private Due() {
+    }
+
+    /** What is looked at from here on is due by this sentence of the document. */
+    static void sentence(String words) {
+        sentences++;
+        sentence = "[" + words + "] ";
     }
 
     static void due(String call, long got, long want) {
         looked++;
         if (got != want) {
             wrong++;
-            System.out.println(call + " answered " + got + ", due is " + want);
+            System.out.println(sentence + call + " answered " + got + ", due is " + want);
         }
     }
 
@@ -35,6 +43,31 @@ final class Due {
         return x;
     }
 
+    /** A new object in whose HALL all ROWS SOUND as told by digits. */
+    static ClappedWrong with(String hall, String sounds) {
+        ClappedWrong x = with(hall);
+        let(x, sounds);
+        return x;
+    }
+
+    /** So many like ROWS as the text of a HALL. */
+    static String rows(int howMany, String row, int late) {
+        return (row + ",").repeat(howMany - 1) + row + ";" + late;
+    }
+
+    /** Another HALL is read in its place. */
+    static void read(ClappedWrong x, String hall) {
+        x.blank();
+        write(x, hall);
+        due("hall() of " + hall, x.hall(), (hall.length() - 1) / 4);
+    }
+
+    static void bars(ClappedWrong x, int howMany) {
+        for (int bar = 0; bar < howMany; bar++) {
+            x.bar();
+        }
+    }
+
     /** What all ROWS SOUND, as a text of digits. */
     static String sounds(ClappedWrong x) {
         return each(x, 4);
@@ -42,7 +75,8 @@ final class Due {
 
     static String each(ClappedWrong x, int what) {
         StringBuilder all = new StringBuilder();
-        for (int row = 0; row < x.count(0); row++) {
+        int rows = x.count(0);
+        for (int row = 0; row < rows; row++) {
             all.append(x.about(row, what));
         }
         return all.toString();
@@ -52,7 +86,7 @@ final class Due {
         looked++;
         if (!got.equals(want)) {
             wrong++;
-            System.out.println(what + " is " + got + ", due is " + want);
+            System.out.println(sentence + what + " is " + got + ", due is " + want);
         }
     }
 
@@ -67,7 +101,8 @@ final class Due {
     }
 
     static void end() {
-        System.out.println(looked + " answers, " + wrong + " not as due");
+        String by = sentences == 0 ? "" : " by " + sentences + " sentences";
+        System.out.println(looked + " answers" + by + ", " + wrong + " not as due");
         if (wrong != 0) {
             System.exit(1);
         }

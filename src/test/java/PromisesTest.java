@@ -389,10 +389,12 @@ public final class PromisesTest {
         ClappedWrong x = Due.with(hall);
         Due.let(x, sounds);
         due("13: rest in " + hall, x.rest(), want > 30 ? NONE : want);
+        String ahead = sounds;
         for (int bar = 0; bar < want; bar++) {
-            String ahead = Due.sounds(x);
             x.bar();
-            Due.due("13: no rest behind " + bar + " bars in " + hall, !ahead.equals(Due.sounds(x)));
+            String then = Due.sounds(x);
+            Due.due("13: no rest behind " + bar + " bars in " + hall, !ahead.equals(then));
+            ahead = then;
         }
         due("13: at rest in " + hall, x.rest(), 0);
     }

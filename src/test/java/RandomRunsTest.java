@@ -3,6 +3,8 @@ import java.util.Random;
 /** Runs of 512 calls on one object, by chance but the same each time, against the model in Model.java. */
 public final class RandomRunsTest {
     private static final int RUNS = 3000, CALLS = 512;
+    /** Stands behind the text of a HALL: it is to be read. */
+    private static final char READ = '\n';
     private static final int[] ODD_NUMBERS = {Integer.MIN_VALUE, Integer.MIN_VALUE + 1, -102, -2, -1, 13, 31, 36, 37, 59,
         60, 61, 72, 73, 126, 127, 128, 255, 65536, Integer.MAX_VALUE - 1, Integer.MAX_VALUE};
 
@@ -25,9 +27,10 @@ public final class RandomRunsTest {
             if (!pending.isEmpty()) {
                 int code = pending.charAt(0);
                 pending = pending.substring(1);
-                Due.due(run + "/" + call + " letter " + code, x.letter(code), m.letter(code));
-                if (pending.isEmpty()) {
+                if (code == READ) {
                     Due.due(run + "/" + call + " hall", x.hall(), m.hall());
+                } else {
+                    Due.due(run + "/" + call + " letter " + code, x.letter(code), m.letter(code));
                 }
             } else if (by.nextInt(120) == 0) {
                 Due.due(run + "/" + call + " blank", x.blank(), m.blank());
@@ -51,7 +54,7 @@ public final class RandomRunsTest {
         if (by.nextInt(6) == 0) {
             text.setCharAt(by.nextInt(text.length()), "csfed0123456789,;x ".charAt(by.nextInt(19)));
         }
-        return text.toString();
+        return text.append(READ).toString();
     }
 
     private static int number(Random by, int least, int most) {
