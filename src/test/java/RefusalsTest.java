@@ -5,7 +5,7 @@ import java.util.function.ToLongFunction;
 
 /**
  * "Refusals, of several the first as told by each call: UNKNOWN, OUTSIDE, STATE, FULL; they change nothing": each refusal
- * of each call by itself, in four states. Behind it the object must answer many calls as its twin does that never heard
+ * of each call by itself, in five states. Behind it the object must answer many calls as its twin does that never heard
  * of the refused call.
  */
 public final class RefusalsTest {
